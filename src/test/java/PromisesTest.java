@@ -26,6 +26,7 @@ final class PromisesTest {
         keepOut();
         breaks();
         breaksAtEdges();
+        breaksOfFullBodies();
         bound();
         section();
         mass();
@@ -602,6 +603,22 @@ final class PromisesTest {
             x.move(1, 998, 1005, 0, side);
             Due.is("a ball's round over the height", x.breaks(0), 1);
         }
+    }
+
+    private static void breaksOfFullBodies() {
+        BodySolids x = withBodies(0, 3);
+        fill(x, 0);
+        x.box(1, 0, 0, 0, 1, 1, 1);
+        x.keepOut(0, 0, 20, 20, 0, 0);
+        x.place(2, 0, 0, 0, 0);
+        x.place(0, 0, 0, 0, 0);
+        x.place(1, 40, 40, 0, 0);
+        x.place(2, 0, 0, 0, 0);
+        x.place(0, 40, 40, 0, 0);
+        Due.is("twelve solids over the rectangle", x.breaks(0), 1);
+        Due.is("fewer beside it, then none, then twelve beside it", x.breaks(1), -1);
+        x.keepOut(51, 40, 52, 41, 0, 0);
+        Due.is("the last of twelve over the rectangle", x.breaks(1), 4);
     }
 
     private static void bound() {

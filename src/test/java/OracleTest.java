@@ -372,7 +372,7 @@ final class OracleTest {
         for (int i = 0; i < 20_000; i++) {
             keepOutCase(dice);
         }
-        for (int i = 0; i < 400; i++) {
+        for (int i = 0; i < 1_500; i++) {
             wholeCase(dice);
         }
         Due.end();
@@ -470,7 +470,7 @@ final class OracleTest {
         Due.is("breaks of no more", x.breaks(1), -1);
     }
 
-    /** Many bodies, placements and moves: the pairs, one by one, and what is kept between calls. */
+    /** Many bodies, placements and moves: the pairs, one by one, and what is kept between calls, of which 512 are enough. */
     private static void wholeCase(Random dice) {
         long thickness = dice.nextInt(3);
         BodySolids x = new BodySolids(thickness);
@@ -481,15 +481,15 @@ final class OracleTest {
             x.body();
             bodies.add(new ArrayList<>());
         }
-        for (int step = 0; step < 60; step++) {
+        for (int step = 0; step < 40; step++) {
             int body = dice.nextInt(5);
             Spot spot = new Spot(dice.nextInt(61) - 30, dice.nextInt(61) - 30, dice.nextInt(4), dice.nextInt(2));
-            int what = dice.nextInt(4);
+            int what = step % 13 == 12 ? 3 : dice.nextInt(3);
             if (what == 0 && bodies.get(body).size() < 12) {
                 Told s = random(dice, dice.nextInt(4));
                 s.tell(x, body, 1);
                 bodies.get(body).add(s);
-            } else if (what == 1 && spots.size() < 10) {
+            } else if (what == 1 && spots.size() < 6) {
                 Due.is("place", x.place(body, spot.x, spot.y, spot.turn, spot.side), spots.size());
                 spots.add(spot);
                 bodyOf.add(body);

@@ -50,7 +50,7 @@ final class RoomTest {
 
     private static long ask(BodySolids x) {
         long sum = 0;
-        for (int i = 0; i < 30; i++) {
+        for (int i = 0; i < 25; i++) {
             x.move(i, 2 * i, 3 * i, 0, 0);
             sum += x.clash(i, 0) + x.clashes() + x.pair(i, 0) + x.breaks(i) + x.bound(i, 2) + x.section(3, i, 4) + x.mass(0);
             x.body();

@@ -1,6 +1,8 @@
 import java.io.IOException;
 import java.nio.file.Files;
 import java.nio.file.Path;
+import java.util.Map;
+import java.util.TreeMap;
 import java.util.regex.Matcher;
 import java.util.regex.Pattern;
 
@@ -32,7 +34,38 @@ final class LanguageTest {
         }
         Due.yes("at most twelve classes", classes <= 12);
         lengthsOfMethods(code);
+        depthOfCalls(methods(code));
         Due.end();
+    }
+
+    /** Each method's name, by its class's and its own, with its text. */
+    private static Map<String, String> methods(String code) {
+        Map<String, String> found = new TreeMap<>();
+        Matcher each = Pattern.compile("(?m)^( {4}| {8})(?:private |public |static |final )*[\\w<>\\[\\]]+ (\\w+)\\([^{};]*\\{\\n((?s:.*?)\\n)\\1\\}").matcher(code);
+        while (each.find()) {
+            found.merge(each.group(2), each.group(3), String::concat);
+        }
+        return found;
+    }
+
+    /** Rules 8 and 11: nothing calls itself, and eight calls are the deepest. */
+    private static void depthOfCalls(Map<String, String> methods) {
+        Due.yes("the methods were found, " + methods.keySet(), methods.size() > 60);
+        for (String name : methods.keySet()) {
+            Due.yes("calls from " + name + " on are at most eight deep", depth(name, methods, 1) <= 8);
+        }
+    }
+
+    private static int depth(String name, Map<String, String> methods, int open) {
+        int found = open;
+        // A list's own add is no method of the class.
+        Matcher call = Pattern.compile("(?:\\b(bodies|placements|keepOuts|solids)\\.)?\\b(\\w+)\\(").matcher(methods.get(name));
+        while (call.find() && found < 20) {
+            if (call.group(1) == null && methods.containsKey(call.group(2))) {
+                found = Math.max(found, depth(call.group(2), methods, open + 1));
+            }
+        }
+        return found;
     }
 
     private static void lengthsOfMethods(String code) {

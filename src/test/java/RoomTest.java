@@ -12,6 +12,7 @@ final class RoomTest {
     public static void main(String[] args) {
         // Once before it counts, since the machine loads its classes then.
         ask(full());
+        dearest();
         taken();
         long start = taken();
         BodySolids x = full();
@@ -21,6 +22,11 @@ final class RoomTest {
         Due.yes("a full object takes less than 200,000 bytes, not " + (made - start), made - start < 200_000);
         Due.yes("asking takes less than 1,000 bytes, not " + (asked - made), asked - made < 1_000);
         Due.yes("the answers were made use of", sum != 0);
+        start = taken();
+        dearest();
+        made = taken();
+        // An object or array takes 16 bytes at least, a field or element one: far less than 600,000 and 7.3 million of them.
+        Due.yes("the dearest run takes less than 300,000 bytes, not " + (made - start), made - start < 300_000);
         Due.end();
     }
 
@@ -46,6 +52,21 @@ final class RoomTest {
             x.keepOut(i, i, i + 1, i + 1, i % 2, 20_000);
         }
         return x;
+    }
+
+    /** As much as 512 calls can tell: 30 bodies of 12 solids, each told by itself, 30 placements and 10 keep-outs. */
+    private static void dearest() {
+        BodySolids x = new BodySolids(0);
+        for (int i = 0; i < 30; i++) {
+            x.body();
+            x.place(i, 100 * i, 0, 0, 0);
+            for (int j = 0; j < 12; j++) {
+                x.box(i, 0, 0, 0, 4, 4, 4);
+            }
+        }
+        for (int i = 0; i < 92; i++) {
+            x.keepOut(0, 0, 1, 1, 0, 0);
+        }
     }
 
     private static long ask(BodySolids x) {

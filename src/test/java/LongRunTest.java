@@ -13,6 +13,7 @@ final class LongRunTest {
     public static void main(String[] args) {
         refusedWhenFull();
         wrongWhenFull();
+        firstBeyondWhenFull();
         cornersWhenFull();
         movesWhenFull();
         clashesWhenFull();
@@ -20,7 +21,6 @@ final class LongRunTest {
         breaksWhenFull();
         boundsWhenFull();
         sectionsWhenFull();
-        massesOfOwnSolids();
         Due.end();
     }
 
@@ -123,6 +123,9 @@ final class LongRunTest {
     /** What the document wants thrown is thrown in a full object, too, before it says that there is no room. */
     private static void wrongWhenFull() {
         Run x = full();
+        x.due(Run.INDEX, "pair", 0, 2);
+        x.due(Run.INDEX, "bound", 0, 6);
+        x.due(Run.INDEX, "section", 1, 0, 6);
         for (long none : new long[] {30, -1, Integer.MAX_VALUE, Integer.MIN_VALUE}) {
             x.due(Run.INDEX, "box", none, 0, 0, 0, 1, 1, 1);
             x.due(Run.INDEX, "cylinder", none, 0, 0, 0, 1, 1);
@@ -155,7 +158,44 @@ final class LongRunTest {
         isAsItWas(x);
     }
 
-    /** Promises 5 and 6: the eight stay while the bodies are full and while it throws; such as make no polygon are gone. */
+    /** The first value beyond each end, of each argument, one by one. */
+    private static void firstBeyondWhenFull() {
+        Run x = full();
+        beyond(x, "box", new long[] {0, 0, 0, 0, 1, 1, 1}, new long[][] {
+            {1, -5001}, {1, 5000}, {2, -5001}, {2, 5000}, {3, -1}, {3, 5000}, {4, 0}, {4, 5001}, {5, 0}, {5, 5001}, {6, 0}, {6, 5001}});
+        beyond(x, "box", new long[] {29, 1, 1, 1, 1, 1, 1}, new long[][] {{4, 5000}, {5, 5000}, {6, 5000}});
+        beyond(x, "cylinder", new long[] {1, 0, 0, 0, 1, 1}, new long[][] {
+            {1, -5001}, {1, 5001}, {2, -5001}, {2, 5001}, {3, -1}, {3, 5000}, {4, 0}, {4, 5001}, {5, 0}, {5, 5001}});
+        beyond(x, "cylinder", new long[] {28, 0, 0, 1, 1, 1}, new long[][] {{5, 5000}});
+        beyond(x, "corner", new long[] {0, 0}, new long[][] {{0, -5001}, {0, 5001}, {1, -5001}, {1, 5001}});
+        beyond(x, "prism", new long[] {2, 0, 1}, new long[][] {{1, -1}, {1, 5000}, {2, 0}, {2, 5001}});
+        beyond(x, "prism", new long[] {27, 1, 1}, new long[][] {{2, 5000}});
+        beyond(x, "tube", new long[] {3, 1, 0, 0, 1, 0, 0}, new long[][] {
+            {1, 0}, {2, -5001}, {2, 5001}, {3, -5001}, {3, 5001}, {4, 0}, {4, 5001}, {5, -1}, {5, 3}, {6, -5001}, {6, 5001}});
+        beyond(x, "tube", new long[] {3, 500, 0, 0, 600, 0, 0}, new long[][] {{1, 501}, {4, 499}});
+        beyond(x, "tube", new long[] {3, 9, 0, 0, 10, 1, 0}, new long[][] {{6, -5001}, {6, 5001}});
+        beyond(x, "tube", new long[] {3, 9, 0, 0, 10, 2, 0}, new long[][] {{6, -2}, {6, 4991}});
+        beyond(x, "tube", new long[] {3, 9, -5000, 0, 10, 0, 0}, new long[][] {{6, -1}, {6, 10001}});
+        for (String name : new String[] {"place", "move"}) {
+            beyond(x, name, new long[] {4, 0, 0, 0, 0}, new long[][] {
+                {1, -10001}, {1, 10001}, {2, -10001}, {2, 10001}, {3, -1}, {3, 4}, {4, -1}, {4, 2}});
+        }
+        beyond(x, "keepOut", new long[] {0, 0, 1, 1, 0, 0}, new long[][] {
+            {0, -20001}, {0, 1}, {0, 2}, {1, -20001}, {1, 1}, {1, 2}, {2, 0}, {2, -1}, {2, 20001}, {3, 0}, {3, -1}, {3, 20001},
+            {4, -1}, {4, 2}, {5, -1}, {5, 20001}});
+        isAsItWas(x);
+    }
+
+    /** The call throws with any one of the arguments changed as told: its number and the value. */
+    private static void beyond(Run x, String name, long[] told, long[][] changes) {
+        for (long[] change : changes) {
+            long[] changed = told.clone();
+            changed[(int) change[0]] = change[1];
+            x.due(Run.ARGUMENT, name, changed);
+        }
+    }
+
+    /** Promises 5 and 6: the eight stay while the bodies are full and while it throws. */
     private static void cornersWhenFull() {
         Run x = full();
         for (int i = 0; i < 30; i++) {
@@ -165,24 +205,6 @@ final class LongRunTest {
             x.due(0, "corner", 0, 0);
         }
         isAsItWas(x);
-        Run y = new Run(0);
-        y.due(0, "body");
-        for (int i = 0; i < 46; i++) {
-            // Nine in a row, of which the last is refused, make no prism, and are gone, 46 times.
-            for (int j = 0; j < 9; j++) {
-                y.due(j < 8 ? 1 : 0, "corner", j, j);
-            }
-            y.due(0, "prism", 0, 0, 1);
-        }
-        for (long[] place : EIGHT) {
-            y.due(1, "corner", place[0], place[1]);
-        }
-        y.due(1, "prism", 0, 0, 1);
-        y.due(226 * 7, "mass", 0);
-        while (y.callsLeft() > 1) {
-            y.due(0, "prism", 0, 0, 1);
-        }
-        y.due(1, "corner", 0, 0);
     }
 
     /** Promise 10: each placement goes to its other side and back, and each move says whether something is otherwise. */
@@ -322,28 +344,5 @@ final class LongRunTest {
         x.due(2, "section", 1, 6, 1);
         x.due(gridX(1) + 30, "section", 1, 6, 2);
         isAsItWas(x);
-    }
-
-    /** Promises 3 and 18: 360 boxes, each told by itself, in turn to all bodies; the masses rise with each. */
-    private static void massesOfOwnSolids() {
-        Run x = new Run(0);
-        for (int i = 0; i < 30; i++) {
-            x.due(i, "body");
-            x.due(i, "place", i, -9000 + 600 * i, 0, 0, 0);
-        }
-        for (int j = 0; j < 12; j++) {
-            for (int i = 0; i < 30; i++) {
-                x.due(1, "box", i, 10 * j, 0, j, i + 1, j + 1, 2);
-            }
-        }
-        for (int i = 0; i < 30; i++) {
-            x.due(226L * (i + 1) * 78 * 2, "mass", i);
-            x.due(0, "box", i, 0, 0, 0, 1, 1, 1);
-        }
-        x.due(0, "clashes");
-        x.due(13, "bound", 29, 5);
-        while (x.callsLeft() > 0) {
-            x.due(226L * 30 * 78 * 2, "mass", 29);
-        }
     }
 }
